@@ -8,6 +8,9 @@ public final class BookTest {
         goesBack();
         goesBackInACall();
         goesBackWholly();
+        goesBackToFewer();
+        goesBackToHeld();
+        goesBackToTheFirstCall();
         backWrong();
         told();
         Tally.end();
@@ -225,6 +228,65 @@ public final class BookTest {
         Tally.due("the later patched one has it", x.at(1, 1), 0);
         Tally.due("heat", x.heat(1), 60 * 20 / 255);
         Tally.due("replay", x.replay(), x.digest());
+    }
+
+    /** What came behind the TICK is not there any more, and may come again. */
+    private static void goesBackToFewer() {
+        CueBoard x = fading();
+        x.tick(1);
+        for (int i = 0; i < 3; i++) {
+            x.group(0, 0);
+        }
+        int f = x.fixture(0, 0);
+        x.patch(f, 1, 0);
+        x.merge(0, 0, true);
+        x.load(1, 0);
+        x.go(1);
+        x.back(0);
+        for (int g = 1; g <= 3; g++) {
+            Tally.due("a group again", x.group(0, 0), g);
+        }
+        Tally.due("a fourth", x.group(0, 0), CueBoard.FULL);
+        Tally.due("a fixture again", x.fixture(0, 0), f);
+        Tally.due("not patched", x.about(f, 2), CueBoard.NONE);
+        x.load(1, 0);
+        x.go(1);
+        x.tick(1);
+        Tally.due("by the greatest again", x.at(1, 1), 20);
+        Tally.due("nothing found", x.found(1) + x.found(2), 0);
+        Tally.due("replay", x.replay(), x.digest());
+    }
+
+    private static void goesBackToHeld() {
+        CueBoard x = new CueBoard();
+        x.line(0, 1);
+        x.fixture(0, 0);
+        x.patch(0, 0, 0);
+        x.bend(0, 0, 0);
+        x.point(0, 0, 0x7FC00000);
+        x.point(0, 50, Float.floatToRawIntBits(80f));
+        x.entry(0, 0, 0, 60, 0);
+        x.list(0, 0, 0);
+        x.load(0, 0);
+        x.tick(1);
+        x.go(0);
+        x.tick(1);
+        Tally.due("bent", x.at(0, 0), 80);
+        x.back(1);
+        Tally.due("held 0", x.at(0, 0), 0);
+        x.tick(1);
+        Tally.due("still held 0", x.at(0, 0), 0);
+        Tally.due("the digest", x.digest(), 0);
+    }
+
+    private static void goesBackToTheFirstCall() {
+        CueBoard x = new CueBoard();
+        x.tick(3);
+        x.line(0, 1);
+        Tally.due("back(1)", x.back(1), 2);
+        Tally.due("one call", x.told(2), 1);
+        Tally.due("back(1)", x.back(1), 1);
+        Tally.due("one call", x.told(2), 1);
     }
 
     private static void backWrong() {

@@ -125,6 +125,7 @@ public final class CuesTest {
         Tally.due("leavings by ticks", x.playback(1, LEAVINGS), 6);
         Tally.due("of another", x.playback(0, ENTRIES), 3);
         Tally.due("of another", x.playback(3, LEAVINGS), 3);
+        Tally.due("of another", x.playback(0, LEAVINGS), 3);
     }
 
     private static void goesOverGroups() {
@@ -190,6 +191,15 @@ public final class CuesTest {
             Tally.due("behind " + k, y.value(0, 0, 0), (65535 * 2 * k + 100) / 200);
         }
         Tally.due("ended", y.playback(0, FADES), 0);
+        CueBoard z = one(1000, 1);
+        Tally.due("not yet", z.value(0, 0, 0), 0);
+        Tally.due("it goes", z.playback(0, FADES), 1);
+        z.load(0, 0);
+        z.go(0);
+        Tally.due("one in place of the other", z.playback(0, FADES), 1);
+        z.tick(1);
+        Tally.due("in one tick", z.value(0, 0, 0), 1000);
+        Tally.due("ended", z.playback(0, FADES), 0);
     }
 
     /** Halves go up, also on the way down. */
@@ -266,6 +276,13 @@ public final class CuesTest {
         y.go(0);
         Tally.due("two went", y.stop(0), 2);
         Tally.due("none of a tick", y.value(0, 0, 2), 0);
+        y.entry(1, 0, 1, 40, 4);
+        y.list(0, 1, 0);
+        y.go(0);
+        y.tick(1);
+        Tally.due("one goes", y.playback(0, FADES), 1);
+        Tally.due("the new one", y.value(0, 0, 1), 17);
+        Tally.due("what stopped goes on no more", y.value(0, 0, 0), 0);
     }
 
     private static void releases() {
@@ -374,6 +391,10 @@ public final class CuesTest {
         Tally.due("a group's", x.merge(2, 0, false), SORT);
         Tally.due("found SORT", x.found(3), 2);
         Tally.due("wide", x.merge(1, 1, true), 1);
+        x.merge(0, 0, true);
+        x.tick(1);
+        Tally.due("0 without any, latest", x.at(0, 0), 0);
+        x.merge(0, 0, false);
         x.tick(1);
         Tally.due("0 without any", x.at(0, 0), 0);
         x.go(0);
@@ -427,6 +448,37 @@ public final class CuesTest {
         x.tick(1);
         Tally.due("a fade that begins", x.at(0, 0), 10);
         mergesInATick();
+        mergesByChannels();
+    }
+
+    private static void mergesByChannels() {
+        for (int c = 0; c < 3; c++) {
+            CueBoard x = new CueBoard();
+            x.line(0, 9);
+            x.fixture(3, 0);
+            x.fixture(3, 0);
+            x.fixture(3, 0);
+            x.group(0, 3);
+            for (int f = 0; f < 3; f++) {
+                x.patch(f, 0, 3 * f);
+                x.member(3, f, f);
+            }
+            for (int i = 0; i < 3; i++) {
+                x.entry(0, 3, i, 90, 0);
+                x.entry(1, 3, i, 30, 0);
+            }
+            x.list(0, 0, 0);
+            x.list(1, 1, 0);
+            x.load(0, 0);
+            x.load(1, 1);
+            x.go(0);
+            x.go(1);
+            x.merge(1, c, true);
+            x.tick(1);
+            for (int p = 0; p < 9; p++) {
+                Tally.due("one channel by the latest, at " + p, x.at(0, p), p == 3 + c ? 30 : 90);
+            }
+        }
     }
 
     /** In one TICK the PLAYBACKS FOLLOW by numbers. */
@@ -501,6 +553,20 @@ public final class CuesTest {
         Tally.due("49 ticks", y.playback(0, PLACE), 0);
         y.tick(1);
         Tally.due("50 ticks", y.playback(0, PLACE), 1);
+        CueBoard w = new CueBoard();
+        w.list(0, 0, 1);
+        w.list(3, 0, 0);
+        w.list(3, 0, 2);
+        w.list(3, 0, 0);
+        w.load(2, 3);
+        w.go(2);
+        w.tick(3);
+        Tally.due("each list its own follows", w.playback(2, PLACE), 0);
+        w.go(2);
+        w.tick(1);
+        Tally.due("one of two", w.playback(2, PLACE), 1);
+        w.tick(1);
+        Tally.due("two of two", w.playback(2, PLACE), 2);
         CueBoard z = following(3, 3, 0);
         z.tick(2);
         z.go(0);

@@ -116,6 +116,7 @@ public final class PatchingTest {
         // TILT has one byte only on the LINE, LEVEL none: neither is written.
         row(x, 0, 0, 21, 22, 0);
         Tally.due("found BEYOND", x.found(2), 2);
+        wholeMovers();
         x.tick(2);
         Tally.due("found BEYOND by ticks", x.found(2), 6);
         Tally.due("cold", x.heat(0), 0);
@@ -126,6 +127,23 @@ public final class PatchingTest {
         x.tick(1);
         Tally.due("on no places", x.found(2), 11 + 3 + 3);
         Tally.due("found NOTHING", x.found(1), 0);
+    }
+
+    /** A MOVER on LINES of 0 to 5 places: a CHANNEL is written whole or not at all. */
+    private static void wholeMovers() {
+        int[] whole = {21, 22, 23, 24, 25};
+        int[] written = {0, 0, 2, 2, 4, 5};
+        int[] beyond = {3, 3, 2, 2, 1, 0};
+        for (int n = 0; n <= 5; n++) {
+            CueBoard x = all();
+            x.line(0, n);
+            x.patch(2, 0, 0);
+            x.tick(1);
+            for (int p = 0; p < n; p++) {
+                Tally.due("of " + n + " places, at " + p, x.at(0, p), p < written[n] ? whole[p] : 0);
+            }
+            Tally.due("beyond " + n, x.found(2), beyond[n]);
+        }
     }
 
     private static void pulled() {
