@@ -316,7 +316,6 @@ public final class CueBoard {
         final boolean[] plugged = new boolean[LINES];
         final int[] limits = new int[LINES];
         final int[] heats = new int[LINES];
-
         // Kept apart from heats: a LIMIT that is told later does not change what was over.
         final boolean[] overs = new boolean[LINES];
 
@@ -422,8 +421,8 @@ public final class CueBoard {
             return overs[l] ? 1 : 0;
         }
 
-        void blank(int l) {
-            for (int p = 0; p < PLACES; p++) {
+        private void blank(int l) {
+            for (int p = 0; p < places[l]; p++) {
                 bytes[l * PLACES + p] = 0;
             }
         }

@@ -427,6 +427,21 @@ public final class CuesTest {
         x.tick(1);
         Tally.due("latest by master", x.at(0, 0), 40);
         mergesByBeginning();
+        mergesTheOnlyFade();
+    }
+
+    private static void mergesTheOnlyFade() {
+        CueBoard x = new CueBoard();
+        x.line(0, 1);
+        x.fixture(0, 0);
+        x.patch(0, 0, 0);
+        x.merge(0, 0, true);
+        x.entry(0, 0, 0, 77, 0);
+        x.list(0, 0, 0);
+        x.load(3, 0);
+        x.go(3);
+        x.tick(1);
+        Tally.due("the first fade of all is the latest", x.at(0, 0), 77);
     }
 
     /** When a FADE began counts, not when it ended; a stop begins none. */

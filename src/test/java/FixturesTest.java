@@ -34,6 +34,20 @@ public final class FixturesTest {
         Tally.due("a group of fewer: FULL first", x.group(0, -1), CueBoard.FULL);
         Tally.due("no finding", x.found(5), 0);
         Tally.due("booked", x.told(2), 24);
+        groupsAsTheLast();
+    }
+
+    private static void groupsAsTheLast() {
+        CueBoard x = new CueBoard();
+        for (int f = 0; f < 21; f++) {
+            x.fixture(MOVER, 0);
+        }
+        for (int g = 21; g < 24; g++) {
+            Tally.due("group", x.group(0, 6), g);
+            Tally.due("its last place", x.member(g, 5, g - 1), 1);
+        }
+        Tally.due("member", x.memberAt(23, 0), 20);
+        Tally.due("no more", x.memberAt(23, 1), CueBoard.NONE);
     }
 
     private static void groups() {

@@ -77,6 +77,13 @@ public final class LinesTest {
         Tally.due("behind all", x.at(0, 64), BEYOND);
         Tally.due("no places", x.at(1, 16), BEYOND);
         Tally.due("told(2)", x.told(2), 5);
+        for (int l = 0; l < 4; l++) {
+            Tally.due("line of 64", x.line(l, 64), 1);
+            Tally.due("pull of 64", x.pull(l), 1);
+            Tally.due("plug of 64", x.plug(l), 1);
+        }
+        x.tick(1);
+        Tally.due("the last of the last", x.at(3, 63), 0);
     }
 
     private static CueBoard lit() {
