@@ -1,8 +1,12 @@
+import java.util.ArrayList;
+import java.util.Arrays;
+import java.util.Collections;
+import java.util.List;
 import java.util.Random;
 
 /** Runs of calls made by chance (with seeds that stay): the program answers what the model does. */
 public final class ModelTest {
-    private static final int RUNS = 1500, CALLS = 512;
+    private static final int RUNS = 2000, CALLS = 512;
     private static final int[] FLOATS = {0, 0x80000000, 0x7FC00000, 0x7F800001, 0xFF800000, 0x7F800000, 1, 0x7F7FFFFF,
         0xFF7FFFFF, Float.floatToRawIntBits(0.5f), Float.floatToRawIntBits(254.5f), Float.floatToRawIntBits(-7.25f)};
     /** How often each call comes, by its place in the face: while the board is built, and later. */
@@ -15,6 +19,8 @@ public final class ModelTest {
     private final CueBoard board = new CueBoard();
     private final Model model = new Model();
     private int fixtures = 0;
+    /** What later calls answer is free. */
+    private int callsLeft = CALLS;
 
     private ModelTest(int seed) {
         random = new Random(seed);
@@ -29,7 +35,8 @@ public final class ModelTest {
 
     private void run(int number) {
         int building = 20 + random.nextInt(90);
-        for (int i = 0; i < CALLS; i++) {
+        int calls = CALLS - random.nextInt(300);
+        for (int i = 0; i < calls; i++) {
             int act = pick(i < building ? BUILDING : RUNNING);
             if (act == 36 && random.nextInt(3) == 0 && i > building) {
                 act = 32;
@@ -38,7 +45,7 @@ public final class ModelTest {
             int due = model.call(act, a);
             Tally.due("run " + number + ", call " + i + ": act " + act + " of " + a[0] + ", " + a[1] + ", " + a[2] + ", "
                 + a[3] + ", " + a[4], call(act, a), due);
-            fixtures = board.told(0);
+            fixtures = model.call(37, of(0));
         }
         compareAll(number);
     }
@@ -144,10 +151,11 @@ public final class ModelTest {
     }
 
     private static int[] of(int... given) {
-        return java.util.Arrays.copyOf(given, 5);
+        return Arrays.copyOf(given, 5);
     }
 
     private int call(int act, int[] a) {
+        callsLeft--;
         return switch (act) {
             case 0 -> board.line(a[0], a[1]);
             case 1 -> board.pull(a[0]);
@@ -196,46 +204,54 @@ public final class ModelTest {
         };
     }
 
-    private void compare(int number, int act, int... a) {
-        int[] given = of(a);
-        Tally.due("end of run " + number + ": act " + act + " of " + given[0] + ", " + given[1] + ", " + given[2],
-            call(act, given), model.call(act, given));
+    private void compareAll(int number) {
+        List<int[]> asked = asked();
+        Collections.shuffle(asked, random);
+        for (int i = 0; i < asked.size() && callsLeft > 0; i++) {
+            int act = asked.get(i)[0];
+            int[] given = of(Arrays.copyOfRange(asked.get(i), 1, asked.get(i).length));
+            Tally.due("end of run " + number + ": act " + act + " of " + given[0] + ", " + given[1] + ", " + given[2],
+                call(act, given), model.call(act, given));
+        }
     }
 
-    private void compareAll(int number) {
+    /** All that can be asked of a board, each as the number of the call and what it is given. */
+    private List<int[]> asked() {
+        List<int[]> all = new ArrayList<>();
         for (int l = 0; l < 4; l++) {
-            compare(number, 29, l);
-            compare(number, 30, l);
+            all.add(new int[] {29, l});
+            all.add(new int[] {30, l});
             for (int p = 0; p < 64; p++) {
-                compare(number, 3, l, p);
+                all.add(new int[] {3, l, p});
             }
             for (int v = 0; v < 256; v += 5) {
-                compare(number, 16, l, v);
+                all.add(new int[] {16, l, v});
             }
             for (int what = 0; what < 7; what++) {
-                compare(number, 27, l, what);
+                all.add(new int[] {27, l, what});
             }
         }
         for (int f = 0; f < fixtures; f++) {
             for (int what = 0; what < 5; what++) {
-                compare(number, 11, f, what);
+                all.add(new int[] {11, f, what});
             }
             for (int c = 0; c < 3; c++) {
                 for (int p = 0; p < 4; p++) {
-                    compare(number, 26, p, f, c);
+                    all.add(new int[] {26, p, f, c});
                 }
             }
             for (int k = 0; k < 10; k++) {
-                compare(number, 8, f, k);
+                all.add(new int[] {8, f, k});
             }
         }
         for (int finding = 1; finding <= 6; finding++) {
-            compare(number, 33, finding);
+            all.add(new int[] {33, finding});
         }
         for (int what = 0; what < 5; what++) {
-            compare(number, 37, what);
+            all.add(new int[] {37, what});
         }
-        compare(number, 34);
-        compare(number, 35);
+        all.add(new int[] {34});
+        all.add(new int[] {35});
+        return all;
     }
 }

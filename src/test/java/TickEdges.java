@@ -444,39 +444,62 @@ final class TickEdges extends Edge {
         due("by the limit of line 0", y.at(0, 1), 12);
     }
 
-    /** 20 SCREENS and 4 DIMMERS at full take all 64 places: the last ones lose most. */
     private static void cutsOfAll() {
         for (int limit : new int[] {0, 1, 19, 20, 21, 79, 80, 81, 1830, 3599, 3600, 3660, 3679, 3680}) {
-            CueBoard x = new CueBoard();
-            x.line(0, 64);
-            int[] levels = new int[64];
-            for (int f = 0; f < 24; f++) {
-                x.fixture(f < 20 ? SCREEN : DIMMER, 0);
-                x.patch(f, 0, f < 20 ? 3 * f : 40 + f);
-                for (int c = 0; c < (f < 20 ? 3 : 1); c++) {
-                    x.entry(f / 4, f, c, 255, 0);
-                }
+            cutsOfAll(limit, false, false);
+            cutsOfAll(limit, false, true);
+            cutsOfAll(limit, true, false);
+            cutsOfAll(limit, true, true);
+        }
+    }
+
+    /**
+     * 20 SCREENS and 4 DIMMERS at full take all 64 places of LINE 0. They are PATCHED by numbers or
+     * the other way round, and every second one may be FIRM.
+     */
+    private static void cutsOfAll(int limit, boolean turned, boolean halfFirm) {
+        CueBoard x = new CueBoard();
+        x.line(0, 64);
+        for (int f = 0; f < 24; f++) {
+            x.fixture(f < 20 ? SCREEN : DIMMER, 0);
+            x.firm(f, halfFirm && f % 2 == 0);
+            for (int c = 0; c < (f < 20 ? 3 : 1); c++) {
+                x.entry(f / 4, f, c, 255, 0);
             }
-            x.load(0, 0);
-            for (int cue = 0; cue < 6; cue++) {
-                x.list(0, cue, 0);
-                x.go(0);
-            }
-            x.limit(0, limit);
-            x.tick(1);
-            int all = 20 * 180 + 4 * 20;
-            for (int p = 63; p >= 0; p--) {
-                int hot = p < 60 ? 60 : 20;
+        }
+        for (int i = 0; i < 24; i++) {
+            int f = turned ? 23 - i : i;
+            x.patch(f, 0, f < 20 ? 3 * f : 40 + f);
+        }
+        x.load(0, 0);
+        for (int cue = 0; cue < 6; cue++) {
+            x.list(0, cue, 0);
+            x.go(0);
+        }
+        x.limit(0, limit);
+        x.tick(1);
+        int[] levels = new int[64];
+        int all = cutAll(levels, limit, turned, halfFirm);
+        row(x, 0, levels);
+        due("heat(0) by a limit of " + limit, x.heat(0), all);
+        due("over(0) by a limit of " + limit, x.over(0), all > limit ? 1 : 0);
+    }
+
+    private static int cutAll(int[] levels, int limit, boolean turned, boolean halfFirm) {
+        int all = 20 * 180 + 4 * 20;
+        for (int i = 0; i < 24; i++) {
+            int f = turned ? i : 23 - i;
+            int hot = f < 20 ? 60 : 20;
+            for (int c = f < 20 ? 2 : 0; c >= 0; c--) {
+                int p = (f < 20 ? 3 * f : 40 + f) + c;
                 levels[p] = 255;
-                while (levels[p] > 0 && all - hot + hot * levels[p] / 255 > limit) {
+                while (!(halfFirm && f % 2 == 0) && levels[p] > 0 && all - hot + hot * levels[p] / 255 > limit) {
                     levels[p]--;
                 }
                 all += hot * levels[p] / 255 - hot;
             }
-            row(x, 0, levels);
-            due("heat(0) by a limit of " + limit, x.heat(0), all);
-            due("over(0) by a limit of " + limit, x.over(0), 0);
         }
+        return all;
     }
 
     /** A MOVER, a STROBE and a SCREEN whose BLUE is beyond: PAN, TILT, RATE are never cut, and BLUE has no HEAT. */
