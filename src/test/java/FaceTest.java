@@ -1,8 +1,15 @@
+import java.io.IOException;
 import java.lang.reflect.Field;
 import java.lang.reflect.Method;
 import java.lang.reflect.Modifier;
+import java.nio.file.Files;
+import java.nio.file.Path;
+import java.util.ArrayList;
 import java.util.Arrays;
+import java.util.List;
 import java.util.TreeSet;
+import java.util.regex.Matcher;
+import java.util.regex.Pattern;
 
 /** The public face is the document's and no more; and no call throws, whatever it is given. */
 public final class FaceTest {
@@ -17,7 +24,7 @@ public final class FaceTest {
     private static final int[] EDGES = {Integer.MIN_VALUE, -2, -1, 0, 1, 2, 3, 4, 5, 6, 8, 12, 16, 24, 51, 64, 101, 256,
         65536, 1000001, Integer.MAX_VALUE};
 
-    public static void main(String[] args) throws ReflectiveOperationException {
+    public static void main(String[] args) throws IOException, ReflectiveOperationException {
         Tally.due("NONE", CueBoard.NONE, -1);
         Tally.due("BAD", CueBoard.BAD, -2);
         Tally.due("NO", CueBoard.NO, -3);
@@ -27,6 +34,7 @@ public final class FaceTest {
         Tally.due("one constructor", CueBoard.class.getDeclaredConstructors().length, 1);
         methods();
         fields();
+        document();
         edges();
         Tally.end();
     }
@@ -56,6 +64,11 @@ public final class FaceTest {
             Tally.due("of the face: " + method, plain && due.contains(nameOf(method)) && method.getReturnType() == int.class ? 1 : 0, 1);
         }
         Tally.due("methods of the face", shown, FACE.length);
+        for (Class<?> inside : CueBoard.class.getDeclaredClasses()) {
+            for (Method method : inside.getDeclaredMethods()) {
+                Tally.due("inside, named as a public one: " + method, names.contains(method.getName()) ? 1 : 0, 0);
+            }
+        }
     }
 
     private static void fields() {
@@ -70,6 +83,45 @@ public final class FaceTest {
         for (Class<?> inside : CueBoard.class.getDeclaredClasses()) {
             Tally.due("static: " + inside, Modifier.isStatic(inside.getModifiers()) && !Modifier.isPublic(inside.getModifiers()) ? 1 : 0, 1);
         }
+    }
+
+    /** FACE is what the document shows, and the program tells its parts as the document does. */
+    private static void document() throws IOException {
+        Path path = Path.of(System.getProperty("shared", "../shared"), "DOC.md");
+        if (!Files.isReadable(path)) {
+            System.out.println("no document at " + path + ": the face is not compared with it");
+            return;
+        }
+        String text = Files.readString(path);
+        List<String> shown = new ArrayList<>();
+        Matcher heads = Pattern.compile("(?m)^    public int (\\w+)\\(([^)]*)\\);$").matcher(text);
+        while (heads.find()) {
+            shown.add(heads.group(1) + "(" + heads.group(2).replaceAll("\\b(int|boolean) \\w+", "$1") + ")");
+        }
+        Tally.due("the document's face is " + shown, shown.equals(Arrays.asList(FACE)) ? 1 : 0, 1);
+        List<String> parts = new ArrayList<>();
+        Matcher said = Pattern.compile("(?m)^Ahead of the calls (.*) the interface says: (.*)\\.$").matcher(text);
+        while (said.find()) {
+            parts.add(said.group(2) + ": " + said.group(1).replace("`", ""));
+        }
+        List<String> told = partsOf(Files.readAllLines(Path.of("src/main/java/CueBoard.java")));
+        Tally.due("the program's parts " + told + " are " + parts, told.equals(parts) && parts.size() == 7 ? 1 : 0, 1);
+    }
+
+    /** Each comment that begins a part of the program's face, with the calls behind it. */
+    private static List<String> partsOf(List<String> program) {
+        List<String> parts = new ArrayList<>();
+        Pattern head = Pattern.compile("    public int (\\w+)\\(.*");
+        for (String line : program) {
+            Matcher matcher = head.matcher(line);
+            if (line.startsWith("    // ---- ")) {
+                parts.add(line.substring("    // ".length()));
+            } else if (matcher.matches() && !parts.isEmpty()) {
+                String part = parts.remove(parts.size() - 1);
+                parts.add(part + (part.contains(":") ? ", " : ": ") + matcher.group(1));
+            }
+        }
+        return parts;
     }
 
     /** Every call with every pair of edges, on a board that is new and on one that has a bit of all. */
